@@ -88,7 +88,7 @@ public final class HashLinkedWeb {
         Asking ofFirst = new Asking(known, first, second);
         Asking ofSecond = new Asking(known, second, first);
         int rounds = 0;
-        // Every round brings each side that still asks something new, so there are no more than operations.
+        // A side that asks gets something new in every round, so it cannot ask more than 40 times.
         while (rounds < MOST_KNOWN && (ofFirst.isOpen() || ofSecond.isOpen())) {
             ofFirst.ask();
             ofSecond.ask();
@@ -459,7 +459,7 @@ public final class HashLinkedWeb {
             if (holds(member)) {
                 return HELD;
             }
-            // The hash alone says which one it is, even when other numbers or links are offered under it.
+            // The hash alone says which one it is, whatever numbers and links are offered under it.
             Operation operation = member == null ? offered : member.operation;
             if (!operation.isInShape()) {
                 return WRONG;
