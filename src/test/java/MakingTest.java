@@ -191,7 +191,8 @@ public final class MakingTest {
             int[] other = numbers.clone();
             other[i] = -other[i];
             web.draft(other[0], other[1], other[2], other[3]);
-            Check.due("draftHash with " + -numbers[i], web.draftHash(), Hashes.of(other[0], other[1], other[2], other[3]));
+            long due = Hashes.of(other[0], other[1], other[2], other[3]);
+            Check.due("draftHash with " + -numbers[i], web.draftHash(), due);
             Check.due("draftHash is another one", web.draftHash() != base, true);
         }
         Check.due("draftHash twice", web.draftHash(), web.draftHash());

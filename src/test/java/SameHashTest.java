@@ -2,14 +2,7 @@
  * Different operations under one hash. Anybody can forge a link that gives a wanted hash; and there
  * are real pairs, found by search, whose links can all be held.
  */
-public final class SameHashTest {
-    private static final int PUT = 0;
-    private static final int ADD = 1;
-    private static final int HELD = HashLinkedWeb.HELD;
-    private static final int LET_IN = HashLinkedWeb.LET_IN;
-    private static final int WAITS = HashLinkedWeb.WAITS;
-    private static final int WRONG = HashLinkedWeb.WRONG;
-
+public final class SameHashTest implements Terms {
     // Author 0: ADD of key 1, then PUT of key 1 over it. Author 1 likewise. The two PUTs have one hash.
     private static final int ADD_OF_0 = 3513545;
     private static final int PUT_OF_0 = 1163601;
@@ -18,16 +11,29 @@ public final class SameHashTest {
     private static final long SHARED = 5785966247042551103L;
 
     public static void main(String[] args) {
-        forgedOneIsTheHeldOne();
-        forgedOneIsLetInAsTheOther();
-        forgedOneWaitsAsTheOther();
-        oneThatWaitsStaysAsItIs();
-        waitingOneDoesNotHinderTheOther();
-        wrongOneDoesNotComeByTheHashOfOneThatWaits();
-        writtenOneWaits();
-        writtenOneIsHeld();
-        waitingOneLeavesAsTheKnownOne();
-        meetingSeesOneOperation();
+        String isThatOne = "an operation that comes with the hash of one that was let in by any replica IS that one";
+        Check.edge(isThatOne, SameHashTest::forgedOneIsTheHeldOne);
+        Check.edge(isThatOne, SameHashTest::forgedOneIsLetInAsTheOther);
+        Check.edge(isThatOne, SameHashTest::forgedOneWaitsAsTheOther);
+        Check.edge(isThatOne, SameHashTest::meetingSeesOneOperation);
+        Check.edge("with its numbers and links", SameHashTest::numbersAndLinksOfTheFirst);
+        Check.edge("that was let in by any replica", SameHashTest::notOneThatWasWrongOrWaits);
+        Check.edge("At most 40 different operations (by their hashes)", SameHashTest::forgedOneIsNoneOfItsOwn);
+        String noTwo = "of those that wait at a replica no two have the same hash";
+        Check.edge(noTwo, SameHashTest::noTwoWaitAtOneReplica);
+        Check.edge(noTwo, SameHashTest::oneWaitsAtEachReplica);
+        String asItIs = "one with the hash of one that waits leaves that one as it is";
+        Check.edge(asItIs, SameHashTest::oneThatWaitsStaysAsItIs);
+        Check.edge(asItIs, SameHashTest::droppedOneMakesRoom);
+        Check.edge("Nothing hangs on hashes being different", SameHashTest::waitingOneDoesNotHinderTheOther);
+        Check.edge("else if it is not in shape, nothing happens (WRONG)",
+            SameHashTest::wrongOneDoesNotComeByTheHashOfOneThatWaits);
+        Check.edge("or WAITS (when it is one that was let in elsewhere, whose links are not held here)",
+            SameHashTest::writtenOneWaits);
+        Check.edge("Answers LET_IN, HELD, WRONG", SameHashTest::writtenOneIsHeld);
+        Check.edge("comes likewise (being held, wrong or let in)", SameHashTest::waitingOneLeavesAsHeld);
+        Check.edge("comes likewise (being held, wrong or let in)", SameHashTest::waitingOneIsLetInAsTheKnownOne);
+        Check.edge("comes likewise (being held, wrong or let in)", SameHashTest::waitingOneLeavesAsTheKnownOne);
         Check.finish();
     }
 
@@ -164,6 +170,130 @@ public final class SameHashTest {
         Check.due("let in", web.has(2, SHARED), true);
         Check.due("as that of 0", web.about(2, 2, 0), 0);
         Check.due("none waits", web.waiting(2), 0);
+    }
+
+    private static void numbersAndLinksOfTheFirst() {
+        HashLinkedWeb web = new HashLinkedWeb();
+        long addOf0 = Offers.letIn(web, 0, 0, ADD, 1, ADD_OF_0);
+        long addOf1 = Offers.letIn(web, 0, 1, ADD, 1, ADD_OF_1);
+        Check.due("the PUT of 0", offer(web, 0, 0, PUT, 1, PUT_OF_0, addOf0), LET_IN);
+        Check.due("the PUT of 1 is that one", offer(web, 0, 1, PUT, 1, PUT_OF_1, addOf1), HELD);
+        Check.due("its links are not those of the PUT of 1", web.heads(0), 2);
+        offer(web, 3, 0, ADD, 1, ADD_OF_0);
+        Check.due("the PUT of 1, where the link of 0 is held", offer(web, 3, 1, PUT, 1, PUT_OF_1, addOf1), LET_IN);
+        int[] due = {0, PUT, 1, PUT_OF_0, 1, 2};
+        for (int what = 0; what < 6; what++) {
+            Check.due("about " + what, web.about(3, 1, what), due[what]);
+        }
+        Check.due("linkAt", web.linkAt(3, 1, 0), addOf0);
+        offer(web, 2, 1, ADD, 1, ADD_OF_1);
+        Check.due("where only the link of 1 is held", offer(web, 2, 1, PUT, 1, PUT_OF_1, addOf1), WAITS);
+        Check.due("three in all", web.all(), 3);
+    }
+
+    /** The hash of what only waits, or was refused, or is only drafted, says nothing of another one. */
+    private static void notOneThatWasWrongOrWaits() {
+        HashLinkedWeb web = new HashLinkedWeb();
+        long addOf0 = Offers.letIn(web, 0, 0, ADD, 1, ADD_OF_0);
+        long addOf1 = Hashes.of(1, ADD, 1, ADD_OF_1);
+        Check.due("the PUT of 1 waits", offer(web, 0, 1, PUT, 1, PUT_OF_1, addOf1), WAITS);
+        Check.due("the PUT of 0 is let in", offer(web, 0, 0, PUT, 1, PUT_OF_0, addOf0), LET_IN);
+        Check.due("as itself", web.about(0, 1, 0), 0);
+        long wrong = Hashes.of(2, PUT, 8, 1);
+        Check.due("one out of shape", offer(web, 0, 2, PUT, 8, 1), WRONG);
+        long link = Hashes.linkFor(wrong, 2, PUT, 7, 1);
+        Check.due("one in shape with its hash", offer(web, 0, 2, PUT, 7, 1, link), WAITS);
+        Check.due("the one out of shape again", offer(web, 0, 2, PUT, 8, 1), WRONG);
+    }
+
+    private static void forgedOneIsNoneOfItsOwn() {
+        HashLinkedWeb web = new HashLinkedWeb();
+        long root = Offers.letIn(web, 0, 0, PUT, 3, 8);
+        Offers.fill(web, 1, 39);
+        long link = Hashes.linkFor(root, 2, PUT, 3, 9);
+        Check.due("forged, with 40 let in", offer(web, 2, 2, PUT, 3, 9, link), LET_IN);
+        Check.due("value", web.value(2, 3), 8);
+        Check.due("40 in all", web.all(), 40);
+    }
+
+    private static void noTwoWaitAtOneReplica() {
+        HashLinkedWeb web = new HashLinkedWeb();
+        long hash = Hashes.of(1, ADD, 0, 2, 77);
+        Check.due("one waits", offer(web, 0, 1, ADD, 0, 2, 77), WAITS);
+        for (int value = 0; value < 6; value++) {
+            long link = Hashes.linkFor(hash, 2, PUT, 7, value);
+            Check.due("another of its hash", offer(web, 0, 2, PUT, 7, value, link), WAITS);
+            Check.due("its hash", web.draftHash(), hash);
+            Check.due("one waits", web.waiting(0), 1);
+        }
+        Check.due("drop", web.drop(0), 1);
+    }
+
+    private static void oneWaitsAtEachReplica() {
+        HashLinkedWeb web = new HashLinkedWeb();
+        long root = Hashes.of(0, PUT, 0, 1);
+        long hash = Hashes.of(1, ADD, 0, 2, root);
+        long link = Hashes.linkFor(hash, 2, PUT, 7, 7);
+        Check.due("the one waits at 0", offer(web, 0, 1, ADD, 0, 2, root), WAITS);
+        Check.due("the other waits at 1", offer(web, 1, 2, PUT, 7, 7, link), WAITS);
+        Check.due("the link of the one, at 1", offer(web, 1, 0, PUT, 0, 1), LET_IN);
+        Check.due("the other waits still", web.waiting(1), 1);
+        Check.due("the link of the one, at 0", offer(web, 0, 0, PUT, 0, 1), LET_IN);
+        Check.due("the one waits no longer", web.waiting(0), 0);
+        Check.due("and is held", web.has(0, hash), true);
+    }
+
+    /** Once the first has been dropped, by drop or as the first of six, the other one waits itself. */
+    private static void droppedOneMakesRoom() {
+        for (int turn = 0; turn < 2; turn++) {
+            HashLinkedWeb web = new HashLinkedWeb();
+            long root = Hashes.of(0, PUT, 0, 1);
+            long hash = Hashes.of(1, ADD, 0, 2, root);
+            long link = Hashes.linkFor(hash, 2, PUT, 7, 7);
+            Check.due("the forged one waits", offer(web, 0, 2, PUT, 7, 7, link), WAITS);
+            for (int i = 0; i < 5 && turn == 0; i++) {
+                Check.due("one more waits", offer(web, 0, 3, PUT, 6, i, 77), WAITS);
+            }
+            if (turn == 1) {
+                Check.due("drop", web.drop(0), 1);
+            }
+            Check.due("the real one waits", offer(web, 0, 1, ADD, 0, 2, root), WAITS);
+            Check.due("what it waits for", offer(web, 0, 0, PUT, 0, 1), LET_IN);
+            Check.due("it is held", web.has(0, hash), true);
+            Check.due("value", web.value(0, 0), 3);
+        }
+    }
+
+    /** The PUT of 1 waits; the PUT of 0 is let in here: when the former leaves, it is held. */
+    private static void waitingOneLeavesAsHeld() {
+        HashLinkedWeb web = new HashLinkedWeb();
+        long addOf1 = Hashes.of(1, ADD, 1, ADD_OF_1);
+        Check.due("the PUT of 1 waits", offer(web, 2, 1, PUT, 1, PUT_OF_1, addOf1), WAITS);
+        long addOf0 = Offers.letIn(web, 2, 0, ADD, 1, ADD_OF_0);
+        Check.due("the PUT of 0", offer(web, 2, 0, PUT, 1, PUT_OF_0, addOf0), LET_IN);
+        Check.due("one waits", web.waiting(2), 1);
+        Check.due("the ADD of 1", offer(web, 2, 1, ADD, 1, ADD_OF_1), LET_IN);
+        Check.due("none waits", web.waiting(2), 0);
+        Check.due("three are held", web.held(2), 3);
+        Check.due("three in all", web.all(), 3);
+        Check.due("value", web.value(2, 1), PUT_OF_0);
+        Check.due("two heads", web.heads(2), 2);
+    }
+
+    /** The PUT of 1 waits; the PUT of 0 was let in elsewhere and its link is held here. */
+    private static void waitingOneIsLetInAsTheKnownOne() {
+        HashLinkedWeb web = new HashLinkedWeb();
+        long addOf1 = Hashes.of(1, ADD, 1, ADD_OF_1);
+        Check.due("the PUT of 1 waits", offer(web, 2, 1, PUT, 1, PUT_OF_1, addOf1), WAITS);
+        web.write(0, ADD, 1, ADD_OF_0);
+        Check.due("the PUT of 0", web.write(0, PUT, 1, PUT_OF_0), LET_IN);
+        Check.due("the ADD of 0", offer(web, 2, 0, ADD, 1, ADD_OF_0), LET_IN);
+        Check.due("the ADD of 1", offer(web, 2, 1, ADD, 1, ADD_OF_1), LET_IN);
+        Check.due("none waits", web.waiting(2), 0);
+        Check.due("let in", web.has(2, SHARED), true);
+        Check.due("as that of 0", web.about(2, 2, 0), 0);
+        Check.due("with the link of 0", web.linkAt(2, 2, 0), Hashes.of(0, ADD, 1, ADD_OF_0));
+        Check.due("three in all", web.all(), 3);
     }
 
     private static void meetingSeesOneOperation() {
